@@ -300,20 +300,21 @@ public final class ObjectDriver {
 
     /** Sends the draft with the work it makes; node is null for a reply. Answers DONE, BAD or FULL. */
     private int post(Proc from, Proc to, Node node, int kind) {
-        if (isDraftBad(from)) {
+        Draft draft = from.draft;
+        if (!findNodes(from, draft)) {
             return BAD;
         }
         boolean mustWait = kind == ONE_WAY && node != null && node.busy;
         if (!mustWait && to.inbox.size() >= INBOX_WORKS) {
             return FULL;
         }
-        if (!hasRoomForDraft(from, to, kind)) {
+        if (!to.hasRoomFor(draft, kind)) {
             return FULL;
         }
-        Message message = new Message(kind, from.number, from.life, node, from.draft);
+        Message message = new Message(kind, from.number, from.life, node, draft);
         to.area.put(message);
-        packItems(from, to, message);
-        from.draft.begin(0);
+        to.receiveItems(draft, message);
+        draft.begin(0);
         if (mustWait) {
             node.queue(message);
         } else {
@@ -322,71 +323,25 @@ public final class ObjectDriver {
         return DONE;
     }
 
-    private boolean isDraftBad(Proc from) {
-        for (int k = 0; k < from.draft.items; k++) {
-            if (from.draft.kinds[k] != NUMBER && draftNode(from, k) == null) {
-                return true;
+    /** Finds the nodes that the draft's items stand for; false when one that is no number has none. */
+    private boolean findNodes(Proc from, Draft draft) {
+        for (int k = 0; k < draft.items; k++) {
+            draft.nodes[k] = findNode(from, draft.kinds[k], draft.values[k]);
+            if (draft.nodes[k] == null && draft.kinds[k] != NUMBER) {
+                return false;
             }
         }
-        return false;
+        return true;
     }
 
-    private boolean hasRoomForDraft(Proc from, Proc to, int kind) {
-        int cells = from.draft.cells();
-        if (to.area.bestGap(cells) == NONE) {
-            return false;
-        }
-        if (kind == ONE_WAY && to.area.usedOneWay + cells > ONE_WAY_CELLS) {
-            return false;
-        }
-        return to.handles.inUse + countNewHandles(from, to) <= HANDLES;
-    }
-
-    private int countNewHandles(Proc from, Proc to) {
-        int fresh = 0;
-        for (int k = 0; k < from.draft.items; k++) {
-            Node node = draftNode(from, k);
-            if (node != null && !to.owns(node) && to.handles.numberOf(node) == NONE
-                    && !draftHasBefore(from, node, k)) {
-                fresh++;
-            }
-        }
-        return fresh;
-    }
-
-    private boolean draftHasBefore(Proc from, Node node, int end) {
-        for (int k = 0; k < end; k++) {
-            if (draftNode(from, k) == node) {
-                return true;
-            }
-        }
-        return false;
-    }
-
-    /** The node that item k of the draft stands for; null when it is a number or stands for none. */
-    private Node draftNode(Proc from, int k) {
-        int value = from.draft.values[k];
-        switch (from.draft.kinds[k]) {
+    private Node findNode(Proc from, int kind, int value) {
+        switch (kind) {
             case OWN:
                 return from.nodeAt(value);
             case HANDLE:
                 return strongNode(from, value);
             default:
                 return null;
-        }
-    }
-
-    private void packItems(Proc from, Proc to, Message message) {
-        for (int k = 0; k < message.items; k++) {
-            Node node = draftNode(from, k);
-            if (node == null) {
-                message.setItem(k, NUMBER, from.draft.values[k]);
-            } else if (to.owns(node)) {
-                message.setItem(k, OWN, node.key);
-            } else {
-                message.setItem(k, HANDLE, to.handles.giveStrong(node));
-                message.held[k] = node;
-            }
         }
     }
 
@@ -439,6 +394,8 @@ public final class ObjectDriver {
     private static final class Draft {
         final int[] kinds = new int[DRAFT_ITEMS];
         final int[] values = new int[DRAFT_ITEMS];
+        /** What the items stand for (null for a number), found anew each time the draft is to be sent. */
+        final Node[] nodes = new Node[DRAFT_ITEMS];
         int items;
         int size;
 
@@ -459,6 +416,15 @@ public final class ObjectDriver {
 
         int cells() {
             return Math.max(1, size + items);
+        }
+
+        boolean hasNodeBefore(int item) {
+            for (int k = 0; k < item; k++) {
+                if (nodes[k] == nodes[item]) {
+                    return true;
+                }
+            }
+            return false;
         }
     }
 
@@ -734,6 +700,43 @@ public final class ObjectDriver {
             return false;
         }
 
+        boolean hasRoomFor(Draft sent, int kind) {
+            int cells = sent.cells();
+            if (area.bestGap(cells) == NONE) {
+                return false;
+            }
+            if (kind == ONE_WAY && area.usedOneWay + cells > ONE_WAY_CELLS) {
+                return false;
+            }
+            return handles.inUse + countNewHandles(sent) <= HANDLES;
+        }
+
+        int countNewHandles(Draft sent) {
+            int fresh = 0;
+            for (int k = 0; k < sent.items; k++) {
+                Node node = sent.nodes[k];
+                if (node != null && !owns(node) && handles.numberOf(node) == NONE && !sent.hasNodeBefore(k)) {
+                    fresh++;
+                }
+            }
+            return fresh;
+        }
+
+        /** The items as this process sees them. */
+        void receiveItems(Draft sent, Message message) {
+            for (int k = 0; k < message.items; k++) {
+                Node node = sent.nodes[k];
+                if (node == null) {
+                    message.setItem(k, NUMBER, sent.values[k]);
+                } else if (owns(node)) {
+                    message.setItem(k, OWN, node.key);
+                } else {
+                    message.setItem(k, HANDLE, handles.giveStrong(node));
+                    message.held[k] = node;
+                }
+            }
+        }
+
         void deliver(Message message) {
             if (message.kind == ONE_WAY && message.node != null) {
                 message.node.busy = true;
@@ -756,9 +759,9 @@ public final class ObjectDriver {
             latest = work;
             if (work.message != null) {
                 work.message.taken = true;
-            }
-            if (work.kind == CALL) {
-                open.add(work.message);
+                if (work.kind == CALL) {
+                    open.add(work.message);
+                }
             }
             if (work.kind == REPLY || work.kind == FAILED) {
                 waits = false;
@@ -779,7 +782,7 @@ public final class ObjectDriver {
 
         void endWatchesOfTheDead() {
             int next = 0;
-            for (int left = watches.size(); left > 0; left--) {
+            for (int left = watches.size(); left > 0 && next < watches.size(); left--) {
                 Watch watch = watches.get(next);
                 if (watch.node.dead) {
                     watches.remove(next);

@@ -9,6 +9,7 @@ public final class BufferTest {
         heldByNodeNotByNumber();
         strongAgain();
         nextOneWay();
+        waitingAgain();
         readItems();
         readAsItCame();
         Checked.end();
@@ -176,6 +177,25 @@ public final class BufferTest {
         x.count(0, 1, 0);
         x.count(0, 5, 0);
         x.count(0, 4, 12);
+    }
+
+    private static void waitingAgain() {
+        Checked x = Checked.managed(2, "waitingAgain");
+        x.sendCells(1, 0, 1, true, 0);
+        x.sendCells(1, 0, 2, true, 0);
+        x.takes(0, 2, 0, 0, 1, 0);
+        x.free(0, 0, true);
+        x.takes(0, 2, 0, 1, 1, 0);
+        x.sendCells(1, 0, 3, true, 0);
+        x.sendCells(1, 0, 4, true, 0);
+        x.take(0, 0);
+        x.free(0, 1, true);
+        x.takes(0, 2, 0, 3, 1, 0);
+        x.free(0, 3, true);
+        x.takes(0, 2, 0, 6, 1, 0);
+        x.free(0, 6, true);
+        x.take(0, 0);
+        x.count(0, 4, 0);
     }
 
     private static void readItems() {

@@ -5,6 +5,7 @@ public final class LifeTest {
         bornHasNothing();
         wrongProcesses();
         deathTakesAll();
+        deathTakesHandles();
         deathOfManager();
         failedForCallers();
         noFailedWithoutCall();
@@ -86,6 +87,32 @@ public final class LifeTest {
         x.read(0, 0, 0, 2, 1);
         x.die(1);
         x.count(0, 1, 0);
+    }
+
+    private static void deathTakesHandles() {
+        Checked x = Checked.managed(3, "deathTakesHandles");
+        lendFifteen(x);
+        for (int handle = 1; handle <= 15; handle++) {
+            x.hold(0, handle, true, true);
+            x.hold(0, handle, false, true);
+        }
+        x.reborn(0);
+        x.hasNothing(0);
+        x.serve(0, 0, true);
+        x.manage(0, 0, true);
+        lendFifteen(x);
+        x.handleIs(0, 1, 1, 0, 1, 0, 0);
+        x.handleIs(0, 10, 1, 0, 1, 9, 0);
+        x.handleIs(0, 15, 1, 0, 2, 4, 0);
+    }
+
+    private static void lendFifteen(Checked x) {
+        for (int handle = 1; handle <= 15; handle++) {
+            int p = handle <= 10 ? 1 : 2;
+            int key = (handle - 1) % 10;
+            x.driver.serve(p, key);
+            x.lend(p, key, handle);
+        }
     }
 
     private static void deathOfManager() {

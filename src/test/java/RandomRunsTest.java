@@ -8,14 +8,15 @@ public final class RandomRunsTest {
     private static final int RUNS = 4000;
     private static final int CALLS = 512;
 
+    private static final TreeMap<String, Integer> SEEN = new TreeMap<>();
+
     private final Random random;
     private final Checked x;
     private final Model model = new Model();
-    /** How seldom processes die in this run, and how seldom buffers are freed. */
+    /** How seldom processes die in this run, how often buffers are freed, and how large drafts are. */
     private final int deaths;
     private final int frees;
     private final int sizes;
-    private static final TreeMap<String, Integer> SEEN = new TreeMap<>();
 
     private RandomRunsTest(int run) {
         random = new Random(run);
@@ -29,9 +30,13 @@ public final class RandomRunsTest {
         for (int run = 0; run < RUNS; run++) {
             new RandomRunsTest(run).run();
         }
-        mustHaveSeen("send 0", "send -1", "send -2", "send -3", "send -4", "send -5", "take 0", "take 1", "take 2",
-                "take 3", "take 4", "take 5", "reply 0", "reply -1", "reply -2", "reply -3", "reply -4", "free true",
-                "free false", "watch true", "watch false", "hold true", "hold false", "drop true", "drop false");
+        mustHaveSeen("send", 0, -1, -2, -3, -4, -5);
+        mustHaveSeen("take", 0, 1, 2, 3, 4, 5);
+        mustHaveSeen("reply", 0, -1, -2, -3, -4);
+        mustHaveSeen("free", true, false);
+        mustHaveSeen("watch", true, false);
+        mustHaveSeen("hold", true, false);
+        mustHaveSeen("drop", true, false);
         if (args.length > 0) {
             System.out.println(SEEN);
         }
@@ -39,10 +44,10 @@ public final class RandomRunsTest {
     }
 
     /** Runs that never come to an answer would compare nothing of it. */
-    private static void mustHaveSeen(String... answers) {
+    private static void mustHaveSeen(String call, Object... answers) {
         Checked x = new Checked("random runs");
-        for (String answer : answers) {
-            x.due("have come to " + answer, SEEN.containsKey(answer), true);
+        for (Object answer : answers) {
+            x.due(call + " has come to " + answer, SEEN.containsKey(call + " " + answer), true);
         }
     }
 
