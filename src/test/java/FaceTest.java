@@ -26,13 +26,16 @@ public final class FaceTest {
         x.due("constructor's parameters", constructors[0].getParameterCount(), 0);
         Set<String> found = new TreeSet<>();
         for (Method method : type.getDeclaredMethods()) {
-            if (!Modifier.isPrivate(method.getModifiers())) {
+            if (!Modifier.isPrivate(method.getModifiers()) && !method.isSynthetic()) {
                 x.due("modifiers of " + method, method.getModifiers(), Modifier.PUBLIC);
                 found.add(signature(method));
             }
         }
         x.due("methods", found, new TreeSet<>(Arrays.asList(FACE)));
         for (Field field : type.getDeclaredFields()) {
+            if (field.isSynthetic()) {
+                continue;
+            }
             x.due("private " + field, Modifier.isPrivate(field.getModifiers()), true);
             x.due("no static state in " + field,
                     !Modifier.isStatic(field.getModifiers()) || Modifier.isFinal(field.getModifiers()), true);

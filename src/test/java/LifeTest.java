@@ -22,8 +22,8 @@ public final class LifeTest {
         Checked x = new Checked("newObject");
         for (int p = 0; p < 4; p++) {
             int q = p;
-            x.raises("count on one not born", Checked.STATE, () -> x.driver.count(q, 0));
-            x.raises("die on one not born", Checked.STATE, () -> x.driver.die(q));
+            x.raises("count on one not born", Checked.STATE, d -> d.count(q, 0));
+            x.raises("die on one not born", Checked.STATE, d -> d.die(q));
         }
         x.born(3);
         x.send(3, 0, true, -1);
@@ -46,13 +46,13 @@ public final class LifeTest {
         Checked x = new Checked("wrongProcesses");
         int[] none = {-1, 4, Integer.MIN_VALUE, Integer.MAX_VALUE};
         for (int p : none) {
-            x.raises("born(" + p + ")", Checked.ARGUMENT, () -> x.driver.born(p));
-            x.raises("die(" + p + ")", Checked.ARGUMENT, () -> x.driver.die(p));
+            x.raises("born(" + p + ")", Checked.ARGUMENT, d -> d.born(p));
+            x.raises("die(" + p + ")", Checked.ARGUMENT, d -> d.die(p));
         }
         x.born(2);
-        x.raises("born twice", Checked.STATE, () -> x.driver.born(2));
+        x.raises("born twice", Checked.STATE, d -> d.born(2));
         x.die(2);
-        x.raises("die twice", Checked.STATE, () -> x.driver.die(2));
+        x.raises("die twice", Checked.STATE, d -> d.die(2));
         x.born(2);
         x.hasNothing(2);
     }
@@ -91,6 +91,10 @@ public final class LifeTest {
 
     private static void deathTakesHandles() {
         Checked x = Checked.managed(3, "deathTakesHandles");
+        for (int key = 0; key <= 9; key++) {
+            x.serve(1, key, true);
+            x.serve(2, key, true);
+        }
         lendFifteen(x);
         for (int handle = 1; handle <= 15; handle++) {
             x.hold(0, handle, true, true);
@@ -110,7 +114,6 @@ public final class LifeTest {
         for (int handle = 1; handle <= 15; handle++) {
             int p = handle <= 10 ? 1 : 2;
             int key = (handle - 1) % 10;
-            x.driver.serve(p, key);
             x.lend(p, key, handle);
         }
     }

@@ -58,32 +58,11 @@ public final class NodeTest {
         Checked x = Checked.with(2, "wrongProcesses");
         int[] none = {-1, 4, Integer.MIN_VALUE, Integer.MAX_VALUE};
         for (int p : none) {
-            allRaise(x, p, Checked.ARGUMENT);
+            x.everyCallRaises(p, Checked.ARGUMENT);
         }
         x.die(1);
-        allRaise(x, 1, Checked.STATE);
-        allRaise(x, 3, Checked.STATE);
+        x.everyCallRaises(1, Checked.STATE);
+        x.everyCallRaises(3, Checked.STATE);
         x.hasNothing(0);
-    }
-
-    /** Other arguments are wrong too: p is looked at first. */
-    private static void allRaise(Checked x, int p, Class<? extends RuntimeException> want) {
-        ObjectDriver d = x.driver;
-        x.raises("serve on " + p, want, () -> d.serve(p, 11));
-        x.raises("manage on " + p, want, () -> d.manage(p, 11));
-        x.raises("item on " + p, want, () -> d.item(p, 9, 0));
-        x.raises("draft on " + p, want, () -> d.draft(p, 99));
-        x.raises("send on " + p, want, () -> d.send(p, 99, true));
-        x.raises("send on " + p, want, () -> d.send(p, 0, false));
-        x.raises("take on " + p, want, () -> d.take(p));
-        x.raises("latest on " + p, want, () -> d.latest(p, 99));
-        x.raises("reply on " + p, want, () -> d.reply(p));
-        x.raises("free on " + p, want, () -> d.free(p, 99));
-        x.raises("read on " + p, want, () -> d.read(p, 99, 0, 0));
-        x.raises("hold on " + p, want, () -> d.hold(p, 99, true));
-        x.raises("drop on " + p, want, () -> d.drop(p, 99, true));
-        x.raises("watch on " + p, want, () -> d.watch(p, 99, 0));
-        x.raises("count on " + p, want, () -> d.count(p, 99));
-        x.raises("handle on " + p, want, () -> d.handle(p, 99, 99));
     }
 }

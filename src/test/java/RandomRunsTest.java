@@ -12,6 +12,7 @@ public final class RandomRunsTest {
 
     private final Random random;
     private final Checked x;
+    private final ObjectDriver driver = new ObjectDriver();
     private final Model model = new Model();
     /** How seldom processes die in this run, how often buffers are freed, and how large drafts are. */
     private final int deaths;
@@ -67,7 +68,7 @@ public final class RandomRunsTest {
     }
 
     private void change(int roll, int p) {
-        ObjectDriver d = x.driver;
+        ObjectDriver d = driver;
         if (roll < 6) {
             same("born", () -> { d.born(p); return "done"; }, () -> { model.born(p); return "done"; });
         } else if (roll < 8) {
@@ -104,7 +105,7 @@ public final class RandomRunsTest {
     }
 
     private void count(int p) {
-        ObjectDriver d = x.driver;
+        ObjectDriver d = driver;
         int handle = handle(p);
         boolean strong = random.nextBoolean();
         int cookie = random.nextInt(100);
@@ -116,7 +117,7 @@ public final class RandomRunsTest {
     }
 
     private void look(int p) {
-        ObjectDriver d = x.driver;
+        ObjectDriver d = driver;
         int what = random.nextInt(10) - 1;
         int handle = handle(p);
         int at = place(p);
@@ -145,10 +146,10 @@ public final class RandomRunsTest {
         return some.isEmpty() || random.nextInt(20) == 0 ? other : some.get(random.nextInt(some.size()));
     }
 
-    private void same(String call, Supplier<Object> driver, Supplier<Object> reference) {
+    private void same(String call, Supplier<Object> real, Supplier<Object> reference) {
         Object want = answer(reference);
         SEEN.merge(call + " " + want, 1, Integer::sum);
-        x.due(call, answer(driver), want);
+        x.due(call, answer(real), want);
     }
 
     private static Object answer(Supplier<Object> call) {

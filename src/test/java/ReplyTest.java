@@ -225,7 +225,7 @@ public final class ReplyTest {
     private static void answerWith(Checked x, int kind, int value, int want) {
         x.send(1, 0, false, 0);
         x.take(0, 1);
-        int at = x.driver.latest(0, 2);
+        int at = x.latestAt(0);
         x.item(0, kind, value, true);
         x.reply(0, want);
         x.free(0, at, true);

@@ -126,12 +126,12 @@ public final class TakeTest {
         Checked x = Checked.managed(2, "wrongWhat");
         int[] wrong = {-1, 5, Integer.MIN_VALUE, Integer.MAX_VALUE};
         for (int what : wrong) {
-            x.raises("latest(0, " + what + ")", Checked.NO_ELEMENT, () -> x.driver.latest(0, what));
+            x.raises("latest(0, " + what + ")", Checked.NO_ELEMENT, d -> d.latest(0, what));
         }
         x.send(1, 0, true, 0);
         x.take(0, 2);
         for (int what : wrong) {
-            x.raises("latest(0, " + what + ")", Checked.NO_ELEMENT, () -> x.driver.latest(0, what));
+            x.raises("latest(0, " + what + ")", Checked.NO_ELEMENT, d -> d.latest(0, what));
         }
     }
 }
