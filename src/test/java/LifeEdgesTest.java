@@ -8,6 +8,8 @@ public final class LifeEdgesTest {
         bornWhenThereIsNoSuchProcess();
         bornWithNothing();
         bornAgainWithNothing();
+        bornAgainWithoutHandles();
+        bornAgainWithEmptyDraft();
         dieOnceOnly();
         dieWhenThereIsNoSuchProcess();
         dieOfTheManagersProcess();
@@ -115,6 +117,39 @@ public final class LifeEdgesTest {
         x.die(1);
         x.take(0, 0);
         x.reply(0, -1);
+    }
+
+    private static void bornAgainWithoutHandles() {
+        Checked x = Checked.managed(3, "bornAgainWithoutHandles");
+        x.lendNodes(15);
+        x.hold(0, 1, true, true);
+        x.hold(0, 1, false, true);
+        x.hold(0, 15, true, true);
+        x.hold(0, 15, false, true);
+        x.reborn(0);
+        x.hasNothing(0);
+        x.serve(0, 0, true);
+        x.manage(0, 0, true);
+        for (int handle = 1; handle <= 15; handle++) {
+            x.item(Checked.lender(handle), 1, Checked.lentKey(handle), true);
+            x.send(Checked.lender(handle), 0, true, 0);
+        }
+        x.handleIs(0, 1, 1, 0, 1, 0, 0);
+        x.handleIs(0, 15, 1, 0, 2, 4, 0);
+    }
+
+    private static void bornAgainWithEmptyDraft() {
+        Checked x = Checked.managed(2, "bornAgainWithEmptyDraft");
+        x.draft(1, 20, true);
+        for (int k = 0; k < 4; k++) {
+            x.item(1, 0, k, true);
+        }
+        x.reborn(1);
+        x.count(1, 7, 0);
+        x.item(1, 0, 5, true);
+        x.item(1, 0, 6, true);
+        x.send(1, 0, true, 0);
+        x.count(0, 5, 2);
     }
 
     /** "IllegalStateException when it is not alive" */

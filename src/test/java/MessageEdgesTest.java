@@ -9,6 +9,7 @@ public final class MessageEdgesTest {
         handleOfDeadNodeIsGood();
         badBeforeEveryFull();
         fullInbox();
+        fullInboxOfDeaths();
         fullInboxOverTwelve();
         waitingOneWayDoesNotCareForTheInbox();
         waitingOneWayCaresForTheRest();
@@ -196,6 +197,23 @@ public final class MessageEdgesTest {
         y.take(0, 1);
         y.send(1, 0, true, 0);
         y.count(0, 1, 12);
+    }
+
+    private static void fullInboxOfDeaths() {
+        Checked x = Checked.managed(3, "fullInboxOfDeaths");
+        x.lendNodes(1);
+        x.die(1);
+        for (int n = 0; n < 11; n++) {
+            x.watch(0, 1, n, true);
+        }
+        x.send(2, 0, true, 0);
+        x.send(2, 0, false, -4);
+        x.take(0, 4);
+        x.watch(0, 1, 11, true);
+        x.count(0, 1, 12);
+        x.send(2, 0, false, -4);
+        x.take(0, 4);
+        x.send(2, 0, false, 0);
     }
 
     private static void fullInboxOverTwelve() {

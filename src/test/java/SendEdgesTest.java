@@ -20,6 +20,8 @@ public final class SendEdgesTest {
         oneWayWaitsBehindOneTaken();
         oneWayDoesNotWaitWhenFreed();
         oneWaysWaitInOrder();
+        oneWaysWaitAgain();
+        oneWaysWaitBehindTheRest();
         callsDoNotWait();
         oneWaysOfOtherNodesDoNotWait();
         bufferOfWaitingLiesInTheArea();
@@ -303,6 +305,39 @@ public final class SendEdgesTest {
         }
         x.count(0, 1, 0);
         x.count(0, 5, 0);
+    }
+
+    private static void oneWaysWaitAgain() {
+        Checked x = Checked.managed(2, "oneWaysWaitAgain");
+        x.send(1, 0, true, 0);
+        for (int n = 0; n < 4; n++) {
+            x.send(1, 0, true, 0);
+            x.count(0, 1, 1);
+            x.takes(0, 2, 0, n % 2, 1, 0);
+            x.take(0, 0);
+            x.free(0, n % 2, true);
+            x.count(0, 1, 1);
+        }
+    }
+
+    private static void oneWaysWaitBehindTheRest() {
+        Checked x = Checked.managed(3, "oneWaysWaitBehindTheRest");
+        for (int cells = 1; cells <= 3; cells++) {
+            x.sendCells(1, 0, cells, true, 0);
+        }
+        x.take(0, 2);
+        x.free(0, 0, true);
+        x.sendCells(2, 0, 4, true, 0);
+        x.takes(0, 2, 0, 1, 1, 0);
+        x.free(0, 1, true);
+        x.takes(0, 2, 0, 3, 1, 0);
+        x.sendCells(2, 0, 5, true, 0);
+        x.free(0, 3, true);
+        x.takes(0, 2, 0, 6, 2, 0);
+        x.free(0, 6, true);
+        x.take(0, 2);
+        x.read(0, x.latestAt(0), 0, 2, 5);
+        x.count(0, 5, 5);
     }
 
     private static void callsDoNotWait() {
