@@ -81,7 +81,12 @@ final class Model {
         return lives(p) ? new ArrayList<>(states[p].area.keySet()) : List.of();
     }
 
-    private boolean lives(int p) {
+    /** As count(), 0 when p is not alive. */
+    int amount(int p, int what) {
+        return lives(p) ? count(p, what) : 0;
+    }
+
+    boolean lives(int p) {
         return p >= 0 && p <= 3 && states[p] != null;
     }
 

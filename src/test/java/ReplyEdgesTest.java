@@ -11,6 +11,7 @@ public final class ReplyEdgesTest {
         draftStaysForTheNext();
         badOwn();
         badHandle();
+        badZeroWithoutManager();
         badBeforeFull();
         fullInbox();
         fullArea();
@@ -202,6 +203,23 @@ public final class ReplyEdgesTest {
         x.take(1, 3);
         x.reads(1, 0, 0, 2, 1);
         x.reads(1, 0, 1, 1, 0);
+    }
+
+    private static void badZeroWithoutManager() {
+        Checked x = Checked.managed(3, "badZeroWithoutManager");
+        x.lendNodes(11);
+        x.item(0, 2, 1, true);
+        x.send(0, 11, true, 0);
+        x.take(2, 2);
+        x.send(2, 1, false, 0);
+        x.take(1, 1);
+        x.item(1, 2, 0, true);
+        x.die(0);
+        x.reply(1, -3);
+        x.manage(2, 0, true);
+        x.reply(1, 0);
+        x.takes(2, 3, -1, 1, 1, 0);
+        x.reads(2, 1, 0, 1, 0);
     }
 
     private static void badBeforeFull() {
