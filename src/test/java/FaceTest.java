@@ -29,9 +29,10 @@ public final class FaceTest {
             if (!Modifier.isPrivate(method.getModifiers()) && !method.isSynthetic()) {
                 x.due("modifiers of " + method, method.getModifiers(), Modifier.PUBLIC);
                 found.add(signature(method));
+                x.due("what is thrown by " + method.getName(), Set.of(method.getExceptionTypes()), thrownBy(method));
             }
         }
-        x.due("methods", found, new TreeSet<>(Arrays.asList(FACE)));
+        x.due("methods", found, face());
         for (Field field : type.getDeclaredFields()) {
             if (field.isSynthetic()) {
                 continue;
@@ -41,6 +42,18 @@ public final class FaceTest {
                     !Modifier.isStatic(field.getModifiers()) || Modifier.isFinal(field.getModifiers()), true);
         }
         Checked.end();
+    }
+
+    /** The methods of the document's face. */
+    static Set<String> face() {
+        return new TreeSet<>(Arrays.asList(FACE));
+    }
+
+    private static Set<Class<?>> thrownBy(Method method) {
+        if (method.getName().equals("latest") || method.getName().equals("read")) {
+            return Set.of(Checked.ARGUMENT, Checked.STATE, Checked.NO_ELEMENT);
+        }
+        return Set.of(Checked.ARGUMENT, Checked.STATE);
     }
 
     private static String signature(Method method) {
